@@ -286,16 +286,16 @@ public final class DictionaryTerms {
         }
 
         /**
-         * The TYPE with these PUT IN for VARIABLES 0 and 1, or FULL. NONE for a VARIABLE leaves it
-         * as it is. Each TYPE is rebuilt once: a TYPE that shares its ARGUMENTS may stand for a
-         * tree far too large to be walked.
+         * The TYPE with these PUT IN for VARIABLES 0 and 1, or FULL. NONE may be given for a
+         * VARIABLE that does not stand in it. Each TYPE is rebuilt once: a TYPE that shares its
+         * ARGUMENTS may stand for a tree far too large to be walked.
          */
         int putIn(int type, int forZero, int forOne) {
             for (int t = 0; t < types; t++) {
                 image[t] = open[t] == 0 ? t : NONE;
             }
-            image[0] = forZero == NONE ? 0 : forZero;
-            image[1] = forOne == NONE ? 1 : forOne;
+            image[0] = forZero;
+            image[1] = forOne;
             waiting[0] = type;
             int depth = image[type] == NONE ? 1 : 0;
             for (int turn = 0; turn < 2 * MOST_TYPES && depth > 0; turn++) {
@@ -958,6 +958,9 @@ public final class DictionaryTerms {
         private final Report report;
         private final int[] workDictionary = new int[MOST_AT_WORK];
         private final int[] workMember = new int[MOST_AT_WORK];
+        /** What VARIABLES 0 and 1 are: in a BODY the ARGUMENTS, in a STANDARD 0 is the TYPE itself. */
+        private final int[] workZero = new int[MOST_AT_WORK];
+        private final int[] workOne = new int[MOST_AT_WORK];
         private final int[] workFloor = new int[MOST_AT_WORK];
         private int atWork = 0;
         private final int[] openNode = new int[MOST_OPEN];
@@ -1001,20 +1004,21 @@ public final class DictionaryTerms {
         }
 
         private void beginMember(int dictionary, int member) {
-            int node = instances.bodyOf(dictionaries.instanceOf(dictionary), member);
-            if (node == NONE) {
-                node = classes.standardOf(dictionaries.classOf(dictionary), member);
-            }
-            if (node == NONE) {
+            int body = instances.bodyOf(dictionaries.instanceOf(dictionary), member);
+            int standard = classes.standardOf(dictionaries.classOf(dictionary), member);
+            int type = dictionaries.typeAt(dictionary);
+            if (body == NONE && standard == NONE) {
                 fail(Report.MISSING, dictionary, member);
                 return;
             }
             values.begin(dictionary, member);
             workDictionary[atWork] = dictionary;
             workMember[atWork] = member;
+            workZero[atWork] = body != NONE ? types.argument(type, 0) : type;
+            workOne[atWork] = body != NONE ? types.argument(type, 1) : NONE;
             workFloor[atWork] = open;
             atWork++;
-            openUp(node);
+            openUp(body != NONE ? body : standard);
         }
 
         /** The limits of MEMBERS at work and of HEIGHT leave room for every NODE that is opened. */
@@ -1036,7 +1040,7 @@ public final class DictionaryTerms {
             } else if (kind >= Nodes.PLUS) {
                 advanceSum(node, turns);
             } else if (turns == 0) {
-                needNamed(node);
+                needNamed(dictionaryNamed(node), memberNamed(node));
             } else {
                 endNode(latest);
             }
@@ -1058,20 +1062,22 @@ public final class DictionaryTerms {
             } else if (turns == 1) {
                 leftValue[open - 1] = latest;
                 openUp(nodes.secondOf(node));
-            } else if (nodes.kindOf(node) == Nodes.OVER && latest == 0) {
-                failHere(Report.ZERO);
             } else {
-                endNode(sum(nodes.kindOf(node), leftValue[open - 1], latest));
+                endSum(nodes.kindOf(node), leftValue[open - 1], latest);
             }
         }
 
-        /** Of OVER the right side is not 0. */
-        private long sum(int kind, long left, long right) {
-            switch (kind) {
-                case Nodes.PLUS: return left + right;
-                case Nodes.LESS: return left - right;
-                case Nodes.TIMES: return left * right;
-                default: return right == 0 ? 0 : left / right;
+        private void endSum(int kind, long left, long right) {
+            if (kind == Nodes.PLUS) {
+                endNode(left + right);
+            } else if (kind == Nodes.LESS) {
+                endNode(left - right);
+            } else if (kind == Nodes.TIMES) {
+                endNode(left * right);
+            } else if (right != 0) {
+                endNode(left / right);
+            } else {
+                failHere(Report.ZERO);
             }
         }
 
@@ -1085,27 +1091,30 @@ public final class DictionaryTerms {
             }
         }
 
-        private void needNamed(int node) {
-            int dictionary = workDictionary[atWork - 1];
+        /** Of a NODE that names a MEMBER: the DICTIONARY, or LACKS or FULL if AT cannot have it. */
+        private int dictionaryNamed(int node) {
+            int at = atWork - 1;
+            int dictionary = workDictionary[at];
             int a = nodes.firstOf(node);
-            int b = nodes.secondOf(node);
             switch (nodes.kindOf(node)) {
-                case Nodes.OWN:
-                    need(dictionary, a);
-                    break;
-                case Nodes.OF_CONTEXT:
-                    need(dictionaries.partAt(dictionary, a), b);
-                    break;
-                case Nodes.OF_SUPER:
-                    need(dictionaries.superPartAt(dictionary, a), b);
-                    break;
+                case Nodes.OWN: return dictionary;
+                case Nodes.OF_CONTEXT: return dictionaries.partAt(dictionary, a);
+                case Nodes.OF_SUPER: return dictionaries.superPartAt(dictionary, a);
                 default:
-                    needAt(a, typeHere(b), nodes.thirdOf(node));
+                    int type = types.putIn(nodes.secondOf(node), workZero[at], workOne[at]);
+                    return type == FULL ? FULL : dictionaries.make(a, type);
             }
         }
 
-        private void needAt(int cls, int type, int member) {
-            int dictionary = type == FULL ? FULL : dictionaries.make(cls, type);
+        private int memberNamed(int node) {
+            switch (nodes.kindOf(node)) {
+                case Nodes.OWN: return nodes.firstOf(node);
+                case Nodes.AT: return nodes.thirdOf(node);
+                default: return nodes.secondOf(node);
+            }
+        }
+
+        private void needNamed(int dictionary, int member) {
             if (dictionary == FULL) {
                 failHere(Report.NO_ROOM);
             } else if (dictionary == LACKS) {
@@ -1113,16 +1122,6 @@ public final class DictionaryTerms {
             } else {
                 need(dictionary, member);
             }
-        }
-
-        /** In a BODY the VARIABLES are the ARGUMENTS; in a STANDARD VARIABLE 0 is the TYPE itself. */
-        private int typeHere(int type) {
-            int dictionary = workDictionary[atWork - 1];
-            int own = dictionaries.typeAt(dictionary);
-            int body = instances.bodyOf(dictionaries.instanceOf(dictionary), workMember[atWork - 1]);
-            return body == NONE
-                ? types.putIn(type, own, NONE)
-                : types.putIn(type, types.argument(own, 0), types.argument(own, 1));
         }
 
         private void failHere(int fault) {

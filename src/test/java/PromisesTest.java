@@ -31,17 +31,21 @@ public final class PromisesTest {
         standards();
         dictionaries();
         makingsThatFail();
+        makingOfManyParts();
         roomForDictionaries();
         lacks();
         parts();
         abouts();
         hanging();
         values();
+        valuesOfAllParts();
+        bodiesOfAllInstances();
         arithmetic();
         sidesOfIf();
         variablesPutIn();
         orderOfTypesPutIn();
         sharedTypesPutIn();
+        manyTypesPutIn();
         missing();
         rings();
         zero();
@@ -505,6 +509,43 @@ public final class PromisesTest {
         due("count(5)", x.count(5), 2);
     }
 
+    /** Each of the 8 CLASSES, at each of 7 TYPES: 3 CONTEXTS but at the last, 3 SUPERS where it can. */
+    private static void makingOfManyParts() {
+        DictionaryTerms x = wideScene();
+        x.cls(1);
+        x.instance(7, 0);
+        x.instance(7, 1);
+        for (int c = 0; c < 8; c++) {
+            for (int k = 1; k <= Math.min(c, 3); k++) {
+                due("super " + k + " of " + c, x.superOf(c, c - k), k);
+            }
+            for (int k = 1; k <= 3; k++) {
+                due("context " + k + " of " + c, x.context(2 * c + 1, 8 - k, 0), k);
+            }
+        }
+        due("dictionary(7, 8)", x.dictionary(7, 8), 0);
+        due("count(5)", x.count(5), 56);
+        due("about(0, 4)", x.about(0, 4), 56);
+        for (int d = 0; d < 56; d++) {
+            int c = x.about(d, 0);
+            int t = x.about(d, 1);
+            int contexts = t == 2 ? 0 : 3;
+            due("about(" + d + ", 2)", x.about(d, 2), 2 * c + (t == 2 ? 0 : 1));
+            due("about(" + d + ", 3)", x.about(d, 3), contexts + Math.min(c, 3));
+            for (int k = 0; k < contexts; k++) {
+                due("part(" + d + ", " + k + ")", x.part(d, k), x.dictionary(7 - k, t - 1));
+            }
+            for (int k = 0; k < Math.min(c, 3); k++) {
+                due("part(" + d + ", " + (contexts + k) + ")", x.part(d, contexts + k), x.dictionary(c - 1 - k, t));
+            }
+        }
+        due("nothing was made twice", x.count(5), 56);
+        due("no parts", wideScene().dictionary(3, 4), 0);
+        DictionaryTerms y = wideScene();
+        y.dictionary(1, 4);
+        due("no parts", y.count(5), 1);
+    }
+
     /** CLASSES 0 .. 6, each at any of the CLOSED TYPES 2 .. 11: enough for 60 DICTIONARIES. */
     private static DictionaryTerms wideScene() {
         DictionaryTerms x = new DictionaryTerms();
@@ -643,9 +684,18 @@ public final class PromisesTest {
         for (int d = 0; d < 60; d += 7) {
             due("about(" + d + ", 4)", x.about(d, 4), 60 - d);
         }
+        for (int d = 59; d >= 0; d -= 7) {
+            due("about(" + d + ", 4) again", x.about(d, 4), 60 - d);
+        }
         due("another chain", x.type(1, 61, 61), 62);
         due("no room for it", x.dictionary(0, 62), FULL);
         due("count(5)", x.count(5), 60);
+        x.cls(1);
+        x.dictionary(0, 2);
+        due("dictionary(0, 3)", x.dictionary(0, 3), 1);
+        due("about(0, 4)", x.about(0, 4), 1);
+        due("about(1, 4)", x.about(1, 4), 2);
+        due("about(1, 4) again", x.about(1, 4), 2);
     }
 
     // Promise 15
@@ -686,6 +736,65 @@ public final class PromisesTest {
         x.body(2, 0, NONE);
         x.dictionary(1, 3);
         due("the body is gone, the standard counts", x.value(0, 0), 7);
+    }
+
+    /** 3 CONTEXTS and 3 SUPERS, each MEMBER with a number of its own. */
+    private static void valuesOfAllParts() {
+        DictionaryTerms x = scene();
+        int pair = x.type(2, 3, 2);
+        for (int c = 0; c < 4; c++) {
+            x.cls(4);
+            for (int h = 0; h < 3; h++) {
+                int i = x.instance(c, h);
+                for (int m = 0; m < 4; m++) {
+                    x.body(i, m, x.node(NUMBER, 100 * c + 10 * h + m, 0, 0));
+                }
+            }
+        }
+        for (int above = 2; above >= 0; above--) {
+            x.superOf(3, above);
+        }
+        int last = 11;
+        x.context(last, 1, 0);
+        x.context(last, 2, 1);
+        x.context(last, 1, 1);
+        long[] contexts = {110, 200, 100};
+        long[] supers = {220, 120, 20};
+        for (int k = 0; k < 3; k++) {
+            for (int m = 0; m < 4; m++) {
+                x.body(last, 0, x.node(OF_CONTEXT, k, m, 0));
+                x.body(last, 1, x.node(OF_SUPER, k, m, 0));
+                due("dictionary(3, pair)", x.dictionary(3, pair), 0);
+                due("context " + k + " member " + m, x.value(0, 0), contexts[k] + m);
+                due("super " + k + " member " + m, x.value(0, 1), supers[k] + m);
+            }
+        }
+    }
+
+    private static void bodiesOfAllInstances() {
+        DictionaryTerms x = new DictionaryTerms();
+        for (int h = 0; h < 7; h++) {
+            x.constructor(0);
+            x.type(h, 0, 0);
+        }
+        x.cls(4);
+        x.cls(4);
+        x.cls(4);
+        for (int n = 0; n < 80; n++) {
+            due("node " + n, x.node(NUMBER, 1000 + n, 0, 0), n);
+        }
+        for (int i = 0; i < 20; i++) {
+            x.instance(i / 7, i % 7);
+            for (int m = 0; m < 4; m++) {
+                due("body(" + i + ", " + m + ")", x.body(i, m, 4 * i + m), 1);
+            }
+        }
+        for (int i = 0; i < 20; i++) {
+            due("dictionary of " + i, x.dictionary(i / 7, 2 + i % 7), i);
+            for (int m = 0; m < 4; m++) {
+                due("value(" + i + ", " + m + ")", x.value(i, m), 1000 + 4 * i + m);
+            }
+        }
     }
 
     private static long worked(int kind, long[] row) {
@@ -822,6 +931,35 @@ public final class PromisesTest {
         due("count(1)", x.count(1), 40);
         due("value(0, 0)", x.value(0, 0), 6);
         due("count(1)", x.count(1), 75);
+    }
+
+    /** Of two chains with another VARIABLE each the same one comes, and all of it is there. */
+    private static void manyTypesPutIn() {
+        DictionaryTerms x = new DictionaryTerms();
+        x.constructor(0);
+        x.constructor(1);
+        x.constructor(2);
+        int[] ends = {0, 1, x.type(0, 0, 0)};
+        for (int n = 0; n < 24; n++) {
+            for (int k = 0; k < ends.length; k++) {
+                ends[k] = x.type(1, ends[k], 0);
+            }
+        }
+        int unit = 2;
+        int pair = x.type(2, unit, unit);
+        x.cls(1);
+        x.cls(1);
+        x.instance(0, 2);
+        x.instance(1, 2);
+        x.body(0, 0, x.node(AT, 1, x.type(2, ends[0], ends[1]), 0));
+        x.body(1, 0, x.node(NUMBER, 9, 0, 0));
+        due("dictionary(0, pair)", x.dictionary(0, pair), 0);
+        due("count(1)", x.count(1), 77);
+        due("value(0, 0)", x.value(0, 0), 9);
+        due("one type is made", x.count(1), 78);
+        due("typeOf(77, 1)", x.typeOf(77, 1), ends[2]);
+        due("typeOf(77, 2)", x.typeOf(77, 2), ends[2]);
+        due("about(1, 1)", x.about(1, 1), 77);
     }
 
     private static void missing() {
@@ -987,8 +1125,10 @@ public final class PromisesTest {
         }
         x.body(1, 0, high);
         x.dictionary(0, 42);
-        due("value(0, 0)", x.value(0, 0), 0);
-        dueFault("value(0, 0)", x, DEEP, 40, 0);
+        for (int again = 0; again < 3; again++) {
+            due("value(0, 0)", x.value(0, 0), 0);
+            dueFault("value(0, 0)", x, DEEP, 40, 0);
+        }
         due("value(1, 0)", x.value(1, 0), 5 + 4 * 39);
         due("value(0, 0)", x.value(0, 0), 5 + 4 * 40);
         DictionaryTerms y = chain(60, 5);
@@ -1031,7 +1171,7 @@ public final class PromisesTest {
         x.body(0, 0, x.node(AT, 0, both, 0));
         x.body(1, 0, x.node(NUMBER, 3, 0, 0));
         int top = 4;
-        while (x.count(1) < 78) {
+        for (int t = x.count(1); t < 78; t++) {
             top = x.type(1, top, 0);
         }
         x.dictionary(0, 4);
