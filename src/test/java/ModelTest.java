@@ -9,13 +9,14 @@ import java.util.Set;
 import java.util.TreeMap;
 
 /**
- * Runs of 512 drawn calls, from fixed seeds, against a second program that was written from the
- * document in another way: recursive, with exceptions, and with no thought for room or speed.
+ * Runs of drawn calls, from fixed seeds, 512 on each object, against a second program that was
+ * written from the document in another way: recursive, with exceptions, and with no thought for
+ * room or speed.
  */
 public final class ModelTest {
     private static final int NONE = -1, BAD = -2, FULL = -3, LACKS = -4;
     private static final int[][] FIRST_TYPES = {{0, 0, 0}, {1, 2, 0}, {2, 3, 2}, {1, 0, 0}, {2, 1, 0}};
-    private static final int RUNS = 600, CALLS = 512, SETTING_UP = 160;
+    private static final int RUNS = 4000, SETTING_UP = 130, CALLS_OF_VALUE = 7;
 
     public static void main(String[] args) {
         Map<String, Integer> seen = new TreeMap<>();
@@ -42,12 +43,12 @@ public final class ModelTest {
         }
     }
 
-    /** One run: draws calls, makes each on both programs, and compares all that can be asked. */
+    /** One run: draws calls, changes and questions, makes each on both programs, and compares. */
     private static final class Run {
         private final int seed;
         private final Random random;
         private final int mood;
-        private final DictionaryTerms x = new DictionaryTerms();
+        private final Counted x = new Counted();
         private final Model y = new Model();
         private final StringBuilder calls = new StringBuilder();
         private final Map<String, Integer> seen;
@@ -61,27 +62,29 @@ public final class ModelTest {
         }
 
         String fault() {
-            for (int n = 0; n < CALLS && fault == null; n++) {
-                call(n);
-                if (n % 8 == 0 || n > CALLS - 3) {
-                    compareAll();
-                }
+            while (x.calls() <= Counted.MOST_CALLS - CALLS_OF_VALUE && fault == null) {
+                call(x.calls());
+            }
+            while (x.calls() < Counted.MOST_CALLS && fault == null) {
+                ask();
             }
             return fault;
         }
 
         private void call(int n) {
             boolean early = mood != 0 && n < SETTING_UP;
-            int changes = mood == 0 ? 60 + 35 * (seed / 4 % 2) : 5;
+            int changes = mood == 0 ? 40 + 20 * (seed / 4 % 2) : 4;
             int draw = random.nextInt(100);
             if (early) {
                 setUp(n);
             } else if (draw < changes) {
                 change(random.nextInt(13));
-            } else if (draw < changes + 25 || y.dictionaries.isEmpty()) {
+            } else if (draw < changes + 15 || y.dictionaries.isEmpty()) {
                 dictionary();
-            } else {
+            } else if (draw < changes + 30) {
                 value();
+            } else {
+                ask();
             }
         }
 
@@ -245,38 +248,31 @@ public final class ModelTest {
         }
 
         private void compareReport() {
-            for (int what = -1; what <= 3; what++) {
-                same("failed " + what, x.failed(what), what < 0 || what > 2 ? BAD : y.failed[what]);
+            for (int what = 0; what <= 2; what++) {
+                same("failed " + what, x.failed(what), y.failed[what]);
             }
             same("count 6", x.count(6), y.steps.size());
-            for (int k = -1; k <= y.steps.size(); k++) {
-                boolean there = k >= 0 && k < y.steps.size();
-                same("step " + k + ", 0", x.step(k, 0), there ? y.steps.get(k)[0] : NONE);
-                same("step " + k + ", 1", x.step(k, 1), there ? y.steps.get(k)[1] : NONE);
-                same("step " + k + ", 2", x.step(k, 2), BAD);
-            }
-            same("lack 0", x.lack(0), y.lackedClass);
-            same("lack 1", x.lack(1), y.lackedType);
+            int k = near(y.steps.size());
+            same("step " + k + ", 0", x.step(k, 0), y.step(k, 0));
+            same("step " + k + ", 1", x.step(k, 1), y.step(k, 1));
         }
 
-        private void compareAll() {
-            compareReport();
-            int[] counts = {y.places.size(), y.types.size(), y.classes.size(), y.instances.size(),
-                y.nodes.size(), y.dictionaries.size()};
-            for (int what = 0; what < counts.length; what++) {
-                same("count " + what, x.count(what), counts[what]);
-            }
-            for (int t = 0; t <= y.types.size(); t++) {
-                for (int what = 0; what <= 4; what++) {
-                    same("typeOf " + t + ", " + what, x.typeOf(t, what), y.typeOf(t, what));
-                }
-            }
-            for (int d = 0; d <= y.dictionaries.size(); d++) {
-                for (int k = 0; k <= 6; k++) {
-                    same("about " + d + ", " + k, x.about(d, k), y.about(d, k));
-                    same("part " + d + ", " + k, x.part(d, k), y.part(d, k));
-                    same("begun " + d + ", " + k, x.begun(d, k), y.begun(d, k));
-                }
+        private void ask() {
+            int d = near(y.dictionaries.size());
+            int k = near(7);
+            int t = near(y.types.size());
+            switch (random.nextInt(12)) {
+                case 0: tell("lack", x.lack(k % 3), y.lack(k % 3), k % 3); break;
+                case 1: tell("failed", x.failed(k % 4), y.failed(k % 4), k % 4); break;
+                case 2: tell("step", x.step(d, k % 3), y.step(d, k % 3), d, k % 3); break;
+                case 3: tell("count", x.count(k), y.count(k), k); break;
+                case 4:
+                case 5: tell("typeOf", x.typeOf(t, k % 5), y.typeOf(t, k % 5), t, k % 5); break;
+                case 6:
+                case 7: tell("begun", x.begun(d, k % 5), y.begun(d, k % 5), d, k % 5); break;
+                case 8:
+                case 9: tell("part", x.part(d, k), y.part(d, k), d, k); break;
+                default: tell("about", x.about(d, k % 6), y.about(d, k % 6), d, k % 6);
             }
         }
     }
@@ -625,6 +621,26 @@ public final class ModelTest {
                 made.parts.add(make(above, type));
             }
             return number;
+        }
+
+        int lack(int what) {
+            return what == 0 ? lackedClass : what == 1 ? lackedType : BAD;
+        }
+
+        int failed(int what) {
+            return what >= 0 && what <= 2 ? failed[what] : BAD;
+        }
+
+        int step(int k, int what) {
+            if (what < 0 || what > 1) {
+                return BAD;
+            }
+            return in(k, steps) ? steps.get(k)[what] : NONE;
+        }
+
+        int count(int what) {
+            List<List<?>> all = List.of(places, types, classes, instances, nodes, dictionaries, steps);
+            return in(what, all) ? all.get(what).size() : BAD;
         }
 
         int part(int dictionary, int k) {

@@ -1,22 +1,5 @@
 /** For each promise of the document: ordinary calls, the edges that it names, and wrong calls. */
-public final class PromisesTest {
-    private static final int NONE = -1, BAD = -2, FULL = -3, LACKS = -4;
-    private static final int MISSING = 1, RING = 2, ZERO = 3, LACKING = 4, NO_ROOM = 5, DEEP = 6;
-    private static final int NUMBER = 0, OWN = 1, OF_CONTEXT = 2, OF_SUPER = 3, AT = 4;
-    private static final int PLUS = 5, LESS = 6, TIMES = 7, OVER = 8, IF = 9;
-    private static final int[] OUTSIDE = {-1, -2, -3, -4, 100, Integer.MIN_VALUE, Integer.MAX_VALUE};
-
-    private static int wrong = 0;
-    private static int calls = 0;
-
-    private static void due(String what, long got, long want) {
-        calls++;
-        if (got != want) {
-            wrong++;
-            System.out.println(what + " answered " + got + ", due is " + want);
-        }
-    }
-
+public final class PromisesTest extends Checks {
     public static void main(String[] args) {
         newObject();
         constructors();
@@ -63,43 +46,12 @@ public final class PromisesTest {
         counts();
         whatTakesDictionariesAway();
         refusalsChangeNothing();
-        System.out.println(wrong == 0 ? calls + " answers are as due" : wrong + " are not as due");
-        if (wrong != 0) {
-            System.exit(1);
-        }
-    }
-
-    /** CONSTRUCTORS 0, 1, 2 with so many PLACES; TYPES 2 = C0, 3 = C1(2), 4 = C1(3). */
-    private static DictionaryTerms scene() {
-        DictionaryTerms x = new DictionaryTerms();
-        for (int places = 0; places <= 2; places++) {
-            x.constructor(places);
-        }
-        x.type(0, 0, 0);
-        x.type(1, 2, 0);
-        x.type(1, 3, 0);
-        return x;
-    }
-
-    private static void dueFault(String what, DictionaryTerms x, int fault, int d, int m) {
-        due(what + ": failed(0)", x.failed(0), fault);
-        due(what + ": failed(1)", x.failed(1), d);
-        due(what + ": failed(2)", x.failed(2), m);
-    }
-
-    private static void dueSteps(String what, DictionaryTerms x, int... pairs) {
-        due(what + ": count(6)", x.count(6), pairs.length / 2);
-        for (int k = 0; k < pairs.length / 2; k++) {
-            due(what + ": step(" + k + ", 0)", x.step(k, 0), pairs[2 * k]);
-            due(what + ": step(" + k + ", 1)", x.step(k, 1), pairs[2 * k + 1]);
-        }
-        due(what + ": the step after the last", x.step(pairs.length / 2, 0), NONE);
-        due(what + ": the step after the last", x.step(pairs.length / 2, 1), NONE);
+        finish();
     }
 
     // Promise 1
     private static void newObject() {
-        DictionaryTerms x = new DictionaryTerms();
+        Counted x = new Counted();
         int[] counts = {0, 2, 0, 0, 0, 0, 0};
         for (int what = 0; what < counts.length; what++) {
             due("new: count(" + what + ")", x.count(what), counts[what]);
@@ -115,7 +67,7 @@ public final class PromisesTest {
 
     // Promise 2
     private static void constructors() {
-        DictionaryTerms x = new DictionaryTerms();
+        Counted x = new Counted();
         for (int places : OUTSIDE) {
             due("constructor(" + places + ")", x.constructor(places), BAD);
         }
@@ -130,7 +82,7 @@ public final class PromisesTest {
 
     // Promise 3
     private static void types() {
-        DictionaryTerms x = new DictionaryTerms();
+        Counted x = new Counted();
         due("type without constructors", x.type(0, 0, 0), BAD);
         x.constructor(0);
         x.constructor(1);
@@ -163,7 +115,7 @@ public final class PromisesTest {
 
     // Promise 4
     private static void classes() {
-        DictionaryTerms x = new DictionaryTerms();
+        Counted x = new Counted();
         for (int members : OUTSIDE) {
             due("cls(" + members + ")", x.cls(members), BAD);
         }
@@ -181,7 +133,7 @@ public final class PromisesTest {
 
     // Promise 5
     private static void supers() {
-        DictionaryTerms x = new DictionaryTerms();
+        Counted x = new Counted();
         for (int n = 0; n < 6; n++) {
             x.cls(1);
         }
@@ -205,7 +157,7 @@ public final class PromisesTest {
 
     // Promise 6
     private static void instances() {
-        DictionaryTerms x = new DictionaryTerms();
+        Counted x = new Counted();
         for (int n = 0; n < 3; n++) {
             x.cls(1);
         }
@@ -230,7 +182,7 @@ public final class PromisesTest {
 
     // Promise 7
     private static void contexts() {
-        DictionaryTerms x = scene();
+        Counted x = scene();
         x.cls(1);
         x.cls(1);
         x.instance(0, 0);
@@ -256,7 +208,7 @@ public final class PromisesTest {
 
     // Promise 8
     private static void nodes() {
-        DictionaryTerms x = scene();
+        Counted x = scene();
         x.cls(2);
         due("plus without nodes", x.node(PLUS, 0, 0, 0), BAD);
         due("a number", x.node(NUMBER, Integer.MIN_VALUE, 99, -99), 0);
@@ -294,7 +246,7 @@ public final class PromisesTest {
         due("count(4)", x.count(4), 80);
     }
 
-    private static void nodesOfNumbersOutside(DictionaryTerms x) {
+    private static void nodesOfNumbersOutside(Counted x) {
         for (int out : OUTSIDE) {
             due("kind " + out, x.node(out, 0, 0, 0), BAD);
             due("own " + out, x.node(OWN, out, 0, 0), BAD);
@@ -311,7 +263,7 @@ public final class PromisesTest {
 
     private static void heights() {
         for (int place = 0; place < 3; place++) {
-            DictionaryTerms x = new DictionaryTerms();
+            Counted x = new Counted();
             due("height 0", x.node(NUMBER, 1, 0, 0), 0);
             for (int high = 1; high <= 8; high++) {
                 due("height " + high, highNode(x, place, high - 1), high);
@@ -321,7 +273,7 @@ public final class PromisesTest {
             due("height 9 once more", highNode(x, place, 9), BAD);
             due("plus of height 9", x.node(PLUS, 0, 9, 0), BAD);
         }
-        DictionaryTerms x = scene();
+        Counted x = scene();
         x.cls(1);
         x.cls(1);
         for (int high = 0; high <= 8; high++) {
@@ -334,13 +286,13 @@ public final class PromisesTest {
         due("is not looked at", x.node(PLUS, 0, 12, 0), BAD);
     }
 
-    private static int highNode(DictionaryTerms x, int place, int high) {
+    private static int highNode(Counted x, int place, int high) {
         return x.node(IF, place == 0 ? high : 0, place == 1 ? high : 0, place == 2 ? high : 0);
     }
 
     // Promise 9
     private static void bodies() {
-        DictionaryTerms x = scene();
+        Counted x = scene();
         x.cls(2);
         x.cls(3);
         x.superOf(1, 0);
@@ -397,13 +349,13 @@ public final class PromisesTest {
         noPlacesNoVariables();
     }
 
-    private static void dueFit(DictionaryTerms x, String what, int node, int one, int two) {
+    private static void dueFit(Counted x, String what, int node, int one, int two) {
         due(what + " in an instance of one place", x.body(0, 0, node), one);
         due(what + " in an instance of two places", x.body(1, 0, node), two);
     }
 
     private static void noPlacesNoVariables() {
-        DictionaryTerms x = scene();
+        Counted x = scene();
         x.cls(1);
         x.instance(0, 0);
         due("at variable 0 without places", x.body(0, 0, x.node(AT, 0, 0, 0)), BAD);
@@ -413,7 +365,7 @@ public final class PromisesTest {
 
     // Promise 10
     private static void standards() {
-        DictionaryTerms x = scene();
+        Counted x = scene();
         x.cls(2);
         x.cls(3);
         x.superOf(1, 0);
@@ -452,7 +404,7 @@ public final class PromisesTest {
 
     // Promise 11
     private static void dictionaries() {
-        DictionaryTerms x = scene();
+        Counted x = scene();
         x.cls(1);
         x.cls(1);
         x.cls(1);
@@ -487,7 +439,7 @@ public final class PromisesTest {
     }
 
     private static void makingsThatFail() {
-        DictionaryTerms x = scene();
+        Counted x = scene();
         x.cls(1);
         x.cls(1);
         x.superOf(1, 0);
@@ -510,8 +462,8 @@ public final class PromisesTest {
     }
 
     /** Each of the 8 CLASSES, at each of 7 TYPES: 3 CONTEXTS but at the last, 3 SUPERS where it can. */
-    private static void makingOfManyParts() {
-        DictionaryTerms x = wideScene();
+    private static Counted sceneOfManyParts() {
+        Counted x = wideScene();
         x.cls(1);
         x.instance(7, 0);
         x.instance(7, 1);
@@ -525,46 +477,41 @@ public final class PromisesTest {
         }
         due("dictionary(7, 8)", x.dictionary(7, 8), 0);
         due("count(5)", x.count(5), 56);
-        due("about(0, 4)", x.about(0, 4), 56);
-        for (int d = 0; d < 56; d++) {
-            int c = x.about(d, 0);
-            int t = x.about(d, 1);
-            int contexts = t == 2 ? 0 : 3;
-            due("about(" + d + ", 2)", x.about(d, 2), 2 * c + (t == 2 ? 0 : 1));
-            due("about(" + d + ", 3)", x.about(d, 3), contexts + Math.min(c, 3));
-            for (int k = 0; k < contexts; k++) {
-                due("part(" + d + ", " + k + ")", x.part(d, k), x.dictionary(7 - k, t - 1));
+        return x;
+    }
+
+    /** An object has calls enough for a look at some of the DICTIONARIES, so there is one for every 14. */
+    private static void makingOfManyParts() {
+        for (int from = 0; from < 56; from += 14) {
+            Counted x = sceneOfManyParts();
+            due("about(0, 4)", x.about(0, 4), 56);
+            for (int d = from; d < from + 14; d++) {
+                dueManyParts(x, d);
             }
-            for (int k = 0; k < Math.min(c, 3); k++) {
-                due("part(" + d + ", " + (contexts + k) + ")", x.part(d, contexts + k), x.dictionary(c - 1 - k, t));
-            }
+            due("nothing was made twice", x.count(5), 56);
         }
-        due("nothing was made twice", x.count(5), 56);
         due("no parts", wideScene().dictionary(3, 4), 0);
-        DictionaryTerms y = wideScene();
+        Counted y = wideScene();
         y.dictionary(1, 4);
         due("no parts", y.count(5), 1);
     }
 
-    /** CLASSES 0 .. 6, each at any of the CLOSED TYPES 2 .. 11: enough for 60 DICTIONARIES. */
-    private static DictionaryTerms wideScene() {
-        DictionaryTerms x = new DictionaryTerms();
-        x.constructor(0);
-        x.constructor(1);
-        x.type(0, 0, 0);
-        for (int t = 3; t < 12; t++) {
-            x.type(1, t - 1, 0);
+    private static void dueManyParts(Counted x, int d) {
+        int c = x.about(d, 0);
+        int t = x.about(d, 1);
+        int contexts = t == 2 ? 0 : 3;
+        due("about(" + d + ", 2)", x.about(d, 2), 2 * c + (t == 2 ? 0 : 1));
+        due("about(" + d + ", 3)", x.about(d, 3), contexts + Math.min(c, 3));
+        for (int k = 0; k < contexts; k++) {
+            due("part(" + d + ", " + k + ")", x.part(d, k), x.dictionary(7 - k, t - 1));
         }
-        for (int c = 0; c < 7; c++) {
-            x.cls(1);
-            x.instance(c, 0);
-            x.instance(c, 1);
+        for (int k = 0; k < Math.min(c, 3); k++) {
+            due("part(" + d + ", " + (contexts + k) + ")", x.part(d, contexts + k), x.dictionary(c - 1 - k, t));
         }
-        return x;
     }
 
     private static void roomForDictionaries() {
-        DictionaryTerms x = wideScene();
+        Counted x = wideScene();
         x.superOf(6, 5);
         x.cls(1);
         for (int d = 0; d < 59; d++) {
@@ -586,7 +533,7 @@ public final class PromisesTest {
 
     // Promise 12
     private static void lacks() {
-        DictionaryTerms x = scene();
+        Counted x = scene();
         x.cls(1);
         x.cls(1);
         x.instance(1, 1);
@@ -612,7 +559,7 @@ public final class PromisesTest {
 
     // Promise 13
     private static void parts() {
-        DictionaryTerms x = scene();
+        Counted x = scene();
         x.cls(1);
         x.cls(1);
         x.superOf(1, 0);
@@ -642,7 +589,7 @@ public final class PromisesTest {
 
     // Promise 14
     private static void abouts() {
-        DictionaryTerms x = scene();
+        Counted x = scene();
         x.cls(1);
         x.cls(2);
         x.superOf(1, 0);
@@ -667,7 +614,7 @@ public final class PromisesTest {
 
     /** Every PART is shared: walked as a tree, this would be some 2^27 DICTIONARIES. */
     private static void hanging() {
-        DictionaryTerms x = new DictionaryTerms();
+        Counted x = new Counted();
         x.constructor(0);
         x.constructor(2);
         x.cls(1);
@@ -700,7 +647,7 @@ public final class PromisesTest {
 
     // Promise 15
     private static void values() {
-        DictionaryTerms x = scene();
+        Counted x = scene();
         x.cls(2);
         x.cls(2);
         x.superOf(1, 0);
@@ -740,7 +687,7 @@ public final class PromisesTest {
 
     /** 3 CONTEXTS and 3 SUPERS, each MEMBER with a number of its own. */
     private static void valuesOfAllParts() {
-        DictionaryTerms x = scene();
+        Counted x = scene();
         int pair = x.type(2, 3, 2);
         for (int c = 0; c < 4; c++) {
             x.cls(4);
@@ -772,7 +719,7 @@ public final class PromisesTest {
     }
 
     private static void bodiesOfAllInstances() {
-        DictionaryTerms x = new DictionaryTerms();
+        Counted x = new Counted();
         for (int h = 0; h < 7; h++) {
             x.constructor(0);
             x.type(h, 0, 0);
@@ -798,7 +745,7 @@ public final class PromisesTest {
     }
 
     private static long worked(int kind, long[] row) {
-        DictionaryTerms x = scene();
+        Counted x = scene();
         x.cls(1);
         x.instance(0, 0);
         int left = longNode(x, row[0]);
@@ -806,16 +753,6 @@ public final class PromisesTest {
         x.body(0, 0, x.node(kind, left, right, 0));
         x.dictionary(0, 2);
         return x.value(0, 0);
-    }
-
-    /** A NUMBER is an int, so a long is put together from its halves. */
-    private static int longNode(DictionaryTerms x, long number) {
-        int low = x.node(NUMBER, (int) (number & 0xFFFF), 0, 0);
-        int middle = x.node(NUMBER, (int) (number >> 16 & 0xFFFF), 0, 0);
-        int high = x.node(NUMBER, (int) (number >> 32), 0, 0);
-        int by = x.node(NUMBER, 65536, 0, 0);
-        int upper = x.node(PLUS, x.node(TIMES, high, by, 0), middle, 0);
-        return x.node(PLUS, x.node(TIMES, upper, by, 0), low, 0);
     }
 
     private static void arithmetic() {
@@ -837,7 +774,7 @@ public final class PromisesTest {
     private static void sidesOfIf() {
         int[] conditions = {0, 1, -1, Integer.MIN_VALUE};
         for (int condition : conditions) {
-            DictionaryTerms x = scene();
+            Counted x = scene();
             x.cls(4);
             x.instance(0, 0);
             int asked = x.node(OWN, 0, 0, 0);
@@ -851,7 +788,7 @@ public final class PromisesTest {
             due("if " + condition, x.value(0, 3), condition != 0 ? 11 : 22);
             dueSteps("just the side that counts", x, 0, 0, 0, condition != 0 ? 1 : 2, 0, 3);
         }
-        DictionaryTerms x = scene();
+        Counted x = scene();
         x.cls(1);
         x.instance(0, 0);
         int great = longNode(x, 1L << 32);
@@ -861,7 +798,7 @@ public final class PromisesTest {
     }
 
     private static void variablesPutIn() {
-        DictionaryTerms x = scene();
+        Counted x = scene();
         int pair = x.type(2, 3, 2);
         int swapped = x.type(2, 1, x.type(1, 0, 0));
         int twice = x.type(2, 0, 0);
@@ -893,7 +830,7 @@ public final class PromisesTest {
     }
 
     private static void orderOfTypesPutIn() {
-        DictionaryTerms x = scene();
+        Counted x = scene();
         int later = x.type(1, 1, 0);
         int sooner = x.type(1, 0, 0);
         int both = x.type(2, sooner, x.type(2, later, sooner));
@@ -917,7 +854,7 @@ public final class PromisesTest {
 
     /** As a tree this TYPE has some 2^35 leaves. */
     private static void sharedTypesPutIn() {
-        DictionaryTerms x = scene();
+        Counted x = scene();
         x.cls(1);
         x.instance(0, 1);
         x.instance(0, 2);
@@ -935,7 +872,7 @@ public final class PromisesTest {
 
     /** Of two chains with another VARIABLE each the same one comes, and all of it is there. */
     private static void manyTypesPutIn() {
-        DictionaryTerms x = new DictionaryTerms();
+        Counted x = new Counted();
         x.constructor(0);
         x.constructor(1);
         x.constructor(2);
@@ -963,7 +900,7 @@ public final class PromisesTest {
     }
 
     private static void missing() {
-        DictionaryTerms x = scene();
+        Counted x = scene();
         x.cls(3);
         x.instance(0, 0);
         x.body(0, 0, x.node(PLUS, x.node(OWN, 1, 0, 0), x.node(OWN, 2, 0, 0), 0));
@@ -982,7 +919,7 @@ public final class PromisesTest {
     }
 
     private static void rings() {
-        DictionaryTerms x = scene();
+        Counted x = scene();
         x.cls(4);
         x.instance(0, 0);
         x.body(0, 0, x.node(OWN, 1, 0, 0));
@@ -998,7 +935,7 @@ public final class PromisesTest {
         dueSteps("3 was worked before", x);
         due("value(0, 3)", x.value(0, 3), 8);
         dueSteps("it stays worked", x);
-        DictionaryTerms y = scene();
+        Counted y = scene();
         y.cls(1);
         y.instance(0, 0);
         y.body(0, 0, y.node(AT, 0, 2, 0));
@@ -1008,7 +945,7 @@ public final class PromisesTest {
     }
 
     private static void zero() {
-        DictionaryTerms x = scene();
+        Counted x = scene();
         x.cls(3);
         x.instance(0, 0);
         int nothing = x.node(OWN, 2, 0, 0);
@@ -1026,7 +963,7 @@ public final class PromisesTest {
     }
 
     private static void faultsOfAt() {
-        DictionaryTerms x = scene();
+        Counted x = scene();
         x.cls(2);
         x.cls(1);
         x.instance(0, 0);
@@ -1058,32 +995,13 @@ public final class PromisesTest {
         due("all that was begun by this making is gone", x.count(5), 1);
     }
 
-    /** Each MEMBER at C1(t) needs the one at t; the chain has so many DICTIONARIES. */
-    private static DictionaryTerms chain(int length, int last) {
-        DictionaryTerms x = new DictionaryTerms();
-        x.constructor(0);
-        x.constructor(1);
-        x.type(0, 0, 0);
-        x.cls(2);
-        x.instance(0, 0);
-        x.instance(0, 1);
-        x.context(1, 0, 0);
-        x.body(0, 0, last == NONE ? NONE : x.node(NUMBER, last, 0, 0));
-        x.body(1, 0, x.node(OF_CONTEXT, 0, 0, 0));
-        for (int t = 3; t < 2 + length; t++) {
-            x.type(1, t - 1, 0);
-        }
-        x.dictionary(0, 1 + length);
-        return x;
-    }
-
     private static void deep() {
-        DictionaryTerms x = chain(40, 5);
+        Counted x = chain(40, 5);
         due("40 at work", x.value(0, 0), 5);
         due("count(6)", x.count(6), 40);
         due("step(0, 0)", x.step(0, 0), 39);
         due("step(39, 0)", x.step(39, 0), 0);
-        DictionaryTerms y = chain(41, 5);
+        Counted y = chain(41, 5);
         due("41 at work", y.value(0, 0), 0);
         dueFault("the one that would be worked", y, DEEP, 40, 0);
         dueSteps("none ended", y);
@@ -1097,17 +1015,17 @@ public final class PromisesTest {
     }
 
     private static void deepEdges() {
-        DictionaryTerms x = chain(41, NONE);
+        Counted x = chain(41, NONE);
         due("41, the last missing", x.value(0, 0), 0);
         dueFault("DEEP goes ahead of MISSING", x, DEEP, 40, 0);
         due("40, the last missing", x.value(1, 0), 0);
         dueFault("40, the last missing", x, MISSING, 40, 0);
-        DictionaryTerms y = chain(40, 5);
+        Counted y = chain(40, 5);
         y.body(0, 0, y.node(AT, 0, 41, 0));
         y.dictionary(0, 41);
         due("a ring of 40", y.value(0, 0), 0);
         dueFault("RING goes ahead of DEEP", y, RING, 0, 0);
-        DictionaryTerms z = chain(40, 5);
+        Counted z = chain(40, 5);
         z.body(0, 1, z.node(NUMBER, 6, 0, 0));
         z.body(0, 0, z.node(AT, 0, 2, 1));
         z.dictionary(0, 41);
@@ -1117,7 +1035,7 @@ public final class PromisesTest {
 
     /** 40 MEMBERS, each with its need at the far end of a NODE of HEIGHT 8. */
     private static void highNodesAndDeepMembers() {
-        DictionaryTerms x = chain(41, 5);
+        Counted x = chain(41, 5);
         int one = x.node(NUMBER, 1, 0, 0);
         int high = x.node(OF_CONTEXT, 0, 0, 0);
         for (int n = 0; n < 8; n++) {
@@ -1131,7 +1049,7 @@ public final class PromisesTest {
         }
         due("value(1, 0)", x.value(1, 0), 5 + 4 * 39);
         due("value(0, 0)", x.value(0, 0), 5 + 4 * 40);
-        DictionaryTerms y = chain(60, 5);
+        Counted y = chain(60, 5);
         int full = y.node(OF_CONTEXT, 0, 0, 0);
         for (int n = 0; n < 8; n++) {
             full = y.node(PLUS, full, full, 0);
@@ -1146,7 +1064,7 @@ public final class PromisesTest {
     }
 
     private static void wantOfTypes() {
-        DictionaryTerms x = scene();
+        Counted x = scene();
         int grown = x.type(1, x.type(1, x.type(1, 0, 0), 0), 0);
         x.cls(1);
         x.instance(0, 1);
@@ -1162,7 +1080,7 @@ public final class PromisesTest {
     }
 
     private static void wantOfTypesKeepsWhatIsMade() {
-        DictionaryTerms x = scene();
+        Counted x = scene();
         int inner = x.type(2, 0, 0);
         int both = x.type(2, inner, x.type(1, inner, 0));
         x.cls(1);
@@ -1191,7 +1109,7 @@ public final class PromisesTest {
     }
 
     private static void wantOfDictionaries() {
-        DictionaryTerms x = wideScene();
+        Counted x = wideScene();
         x.body(0, 0, x.node(AT, 6, 2, 0));
         for (int d = 0; d < 60; d++) {
             x.dictionary(d / 10, 2 + d % 10);
@@ -1206,7 +1124,7 @@ public final class PromisesTest {
 
     // Promise 16
     private static void reports() {
-        DictionaryTerms x = scene();
+        Counted x = scene();
         x.cls(2);
         x.instance(0, 0);
         x.instance(0, 1);
@@ -1235,7 +1153,7 @@ public final class PromisesTest {
 
     // Promise 17
     private static void steps() {
-        DictionaryTerms x = scene();
+        Counted x = scene();
         x.cls(3);
         x.instance(0, 0);
         x.instance(0, 1);
@@ -1271,7 +1189,7 @@ public final class PromisesTest {
 
     // Promise 18
     private static void begun() {
-        DictionaryTerms x = scene();
+        Counted x = scene();
         x.cls(4);
         x.instance(0, 0);
         x.instance(0, 1);
@@ -1311,7 +1229,7 @@ public final class PromisesTest {
 
     // Promise 19
     private static void typesOf() {
-        DictionaryTerms x = scene();
+        Counted x = scene();
         x.type(2, 3, 0);
         x.type(2, 4, 2);
         x.type(1, 5, 0);
@@ -1332,7 +1250,7 @@ public final class PromisesTest {
 
     // Promise 20
     private static void counts() {
-        DictionaryTerms x = scene();
+        Counted x = scene();
         x.cls(1);
         x.cls(1);
         x.instance(0, 0);
@@ -1354,7 +1272,7 @@ public final class PromisesTest {
     }
 
     private static void whatTakesDictionariesAway() {
-        DictionaryTerms x = scene();
+        Counted x = scene();
         x.cls(1);
         x.cls(1);
         x.instance(0, 0);
@@ -1374,14 +1292,14 @@ public final class PromisesTest {
     }
 
     /** Looks at how many DICTIONARIES the call left, and makes the one again for the next call. */
-    private static void dueAfter(DictionaryTerms x, String what, int got, int want, int left) {
+    private static void dueAfter(Counted x, String what, int got, int want, int left) {
         due(what, got, want);
         due(what + ": count(5)", x.count(5), left);
         due("dictionary(0, 2)", x.dictionary(0, 2), 0);
     }
 
     private static void refusalsChangeNothing() {
-        DictionaryTerms x = scene();
+        Counted x = scene();
         x.cls(1);
         x.instance(0, 0);
         x.node(NUMBER, 4, 0, 0);
@@ -1400,7 +1318,7 @@ public final class PromisesTest {
         }
         due("still worked", x.value(0, 0), 4);
         due("begun(0, 0)", x.begun(0, 0), 1);
-        DictionaryTerms y = wideScene();
+        Counted y = wideScene();
         y.cls(1);
         y.superOf(7, 0);
         y.superOf(7, 1);
