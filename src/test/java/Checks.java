@@ -120,4 +120,33 @@ abstract class Checks {
         int upper = x.node(PLUS, x.node(TIMES, high, by, 0), middle, 0);
         return x.node(PLUS, x.node(TIMES, upper, by, 0), low, 0);
     }
+
+    /** CLASS 0 of four MEMBERS, with INSTANCES for C0, C1, C2, C3 and itself as CONTEXT of each PLACE. */
+    static Counted sceneOfTwoChains() {
+        Counted x = new Counted();
+        int[] places = {0, 1, 2, 0};
+        x.cls(4);
+        for (int h = 0; h < 4; h++) {
+            x.constructor(places[h]);
+            x.instance(0, h);
+            for (int place = 0; place < places[h]; place++) {
+                x.context(h, 0, place);
+            }
+        }
+        return x;
+    }
+
+    /** Makes 60 DICTIONARIES: 0 at C2 of two TYPES, then 1 .. 30 down to C0 and 31 .. 59 down to C3. */
+    static void makeTwoChains(Counted x) {
+        int left = x.type(0, 0, 0);
+        for (int n = 1; n < 30; n++) {
+            left = x.type(1, left, 0);
+        }
+        int right = x.type(3, 0, 0);
+        for (int n = 1; n < 29; n++) {
+            right = x.type(1, right, 0);
+        }
+        due("dictionary", x.dictionary(0, x.type(2, left, right)), 0);
+        due("count(5)", x.count(5), 60);
+    }
 }

@@ -329,7 +329,7 @@ final class EdgesOfClasses extends Checks {
         due("at hand is the part's dictionary", x.value(0, 1), 13);
     }
 
-    /** MEMBER m of CLASSES c = 0, 1, 2 at C1(C0), and of CLASS 3 at C0, is 10 c + m; INSTANCE 4 is of CLASS 4 and C2. */
+    /** MEMBER m of CLASSES c = 0, 1, 2 at C1(C0), and of CLASS 3 at C0, is 10 c + m; INSTANCE 4: CLASS 4, C2. */
     private static Counted sceneOfParts(int contexts) {
         Counted x = scene();
         for (int c = 0; c < 5; c++) {

@@ -13,6 +13,10 @@ final class EdgesOfDictionaries extends Checks {
             EdgesOfDictionaries::instanceOfBoth);
         s.holds("it gets a number, then its PARTS are made, one after the other:",
             EdgesOfDictionaries::numberAheadOfParts);
+        s.holds("it gets a number, then its PARTS are made, one after the other:",
+            EdgesOfDictionaries::makingOfManyParts);
+        s.holds("it gets a number, then its PARTS are made, one after the other:",
+            EdgesOfDictionaries::makingOfMostParts);
         s.holds("for each CONTEXT its CLASS at the ARGUMENT in that PLACE,", EdgesOfDictionaries::contextsFirst);
         s.holds("then for each SUPER that at the same TYPE.", EdgesOfDictionaries::supersThen);
         s.holds("If one LACKS,", EdgesOfDictionaries::oneLacks);
@@ -362,5 +366,104 @@ final class EdgesOfDictionaries extends Checks {
         dueFault("a part lacks", y, LACKING, 0, 0);
         due("lack(0)", y.lack(0), 1);
         due("count(5)", y.count(5), 1);
+    }
+
+    /** Each of the 8 CLASSES, at each of 7 TYPES: 3 CONTEXTS but at the last, 3 SUPERS where it can. */
+    private static Counted sceneOfManyParts() {
+        Counted x = wideScene();
+        x.cls(1);
+        x.instance(7, 0);
+        x.instance(7, 1);
+        for (int c = 0; c < 8; c++) {
+            for (int k = 1; k <= Math.min(c, 3); k++) {
+                due("super " + k + " of " + c, x.superOf(c, c - k), k);
+            }
+            for (int k = 1; k <= 3; k++) {
+                due("context " + k + " of " + c, x.context(2 * c + 1, 8 - k, 0), k);
+            }
+        }
+        due("dictionary(7, 8)", x.dictionary(7, 8), 0);
+        due("count(5)", x.count(5), 56);
+        return x;
+    }
+
+    /** An object has calls enough for a look at some of the DICTIONARIES, so there is one for every 14. */
+    private static void makingOfManyParts() {
+        for (int from = 0; from < 56; from += 14) {
+            Counted x = sceneOfManyParts();
+            due("about(0, 4)", x.about(0, 4), 56);
+            for (int d = from; d < from + 14; d++) {
+                dueManyParts(x, d);
+            }
+            due("nothing was made twice", x.count(5), 56);
+        }
+        due("no parts", wideScene().dictionary(3, 4), 0);
+        Counted y = wideScene();
+        y.dictionary(1, 4);
+        due("no parts", y.count(5), 1);
+    }
+
+    private static void dueManyParts(Counted x, int d) {
+        int c = x.about(d, 0);
+        int t = x.about(d, 1);
+        int contexts = t == 2 ? 0 : 3;
+        due("about(" + d + ", 2)", x.about(d, 2), 2 * c + (t == 2 ? 0 : 1));
+        due("about(" + d + ", 3)", x.about(d, 3), contexts + Math.min(c, 3));
+        for (int k = 0; k < contexts; k++) {
+            due("part(" + d + ", " + k + ")", x.part(d, k), x.dictionary(7 - k, t - 1));
+        }
+        for (int k = 0; k < Math.min(c, 3); k++) {
+            due("part(" + d + ", " + (contexts + k) + ")", x.part(d, contexts + k), x.dictionary(c - 1 - k, t));
+        }
+    }
+
+    /**
+     * 60 DICTIONARIES in one making, with more PARTS than any other 60 have: CLASS 0 alone at C0, all
+     * eight at each of the seven TYPES above it, and CLASSES 2, 1, 0 at the eighth.
+     */
+    private static void makingOfMostParts() {
+        Counted x = sceneOfMostParts();
+        due("dictionary(2, 10)", x.dictionary(2, 10), 0);
+        due("count(5)", x.count(5), 60);
+        due("about(0, 4)", x.about(0, 4), 60);
+        int parts = 0;
+        for (int d = 0; d < 60; d++) {
+            int c = x.about(d, 0);
+            int t = x.about(d, 1);
+            int many = x.about(d, 3);
+            parts += many;
+            if (t > 2) {
+                int last = c > 0 ? x.dictionary(c - Math.min(c, 3), t) : x.dictionary(t > 3 ? 5 : 0, t - 1);
+                due("the last part of " + d, x.part(d, many - 1), last);
+            }
+        }
+        due("parts in all", parts, 306);
+        due("nothing was made twice", x.count(5), 60);
+    }
+
+    private static Counted sceneOfMostParts() {
+        Counted x = new Counted();
+        x.constructor(0);
+        x.constructor(1);
+        x.constructor(1);
+        for (int c = 0; c < 8; c++) {
+            x.cls(1);
+            for (int k = 1; k <= Math.min(c, 3); k++) {
+                due("super", x.superOf(c, c - k), k);
+            }
+        }
+        for (int n = 0; n < 16; n++) {
+            int h = 1 + n % 2;
+            due("instance", x.instance(n / 2, h), n);
+            for (int k = 1; k <= 3; k++) {
+                due("context", x.context(n, h == 1 ? 0 : 8 - k, 0), k);
+            }
+        }
+        x.instance(0, 0);
+        x.type(0, 0, 0);
+        for (int t = 3; t < 11; t++) {
+            x.type(t == 3 ? 1 : 2, t - 1, 0);
+        }
+        return x;
     }
 }

@@ -748,6 +748,15 @@ final class EdgesOfPromises extends Checks {
         for (int d = 0; d < 60; d++) {
             due("in a chain: about(" + d + ", 4)", y.about(d, 4), 60 - d);
         }
+        Counted z = chain(1, 5);
+        for (int t = 3; t < 8; t++) {
+            due("one more above", z.dictionary(0, z.type(1, t - 1, 0)), t - 2);
+        }
+        for (int again = 0; again < 2; again++) {
+            for (int d = 5; d >= 0; d--) {
+                due("the parts have lesser numbers: about(" + d + ", 4)", z.about(d, 4), d + 1);
+            }
+        }
     }
 
     private static void aboutBad() {
@@ -898,24 +907,15 @@ final class EdgesOfPromises extends Checks {
         x.dictionary(0, 3);
         x.value(0, 0);
         dueSteps("numbers as they are", x, 1, 0, 0, 0);
-        x.value(0, 1);
-        dueSteps("a fault", x);
         x.value(0, 5);
         dueSteps("BAD", x);
+        x.value(0, 1);
+        dueSteps("a fault", x);
     }
 
     /** All four MEMBERS of all 60 DICTIONARIES in one value(). */
     private static void allMembersAreSteps() {
-        Counted x = new Counted();
-        int[] places = {0, 1, 2, 0};
-        x.cls(4);
-        for (int h = 0; h < 4; h++) {
-            x.constructor(places[h]);
-            x.instance(0, h);
-            for (int place = 0; place < places[h]; place++) {
-                x.context(h, 0, place);
-            }
-        }
+        Counted x = sceneOfTwoChains();
         int own = NONE;
         for (int m = 1; m < 4; m++) {
             x.standard(0, m, x.node(NUMBER, m, 0, 0));
@@ -927,16 +927,7 @@ final class EdgesOfPromises extends Checks {
         for (int h = 0; h < 4; h++) {
             x.body(h, 0, bodies[h]);
         }
-        int left = x.type(0, 0, 0);
-        for (int n = 1; n < 30; n++) {
-            left = x.type(1, left, 0);
-        }
-        int right = x.type(3, 0, 0);
-        for (int n = 1; n < 29; n++) {
-            right = x.type(1, right, 0);
-        }
-        due("dictionary", x.dictionary(0, x.type(2, left, right)), 0);
-        due("count(5)", x.count(5), 60);
+        makeTwoChains(x);
         due("value(0, 0)", x.value(0, 0), 360);
         due("count(6)", x.count(6), 240);
         int[][] steps = expectedSteps();

@@ -18,11 +18,14 @@ final class EdgesOfTypes extends Checks {
         s.holds("CLOSED: no VARIABLE stands in it.", EdgesOfTypes::closedFarWithin);
         s.holds("Some PUT IN for VARIABLES of a TYPE: each VARIABLE becomes that;",
             EdgesOfTypes::eachVariableBecomesThat);
+        s.holds("Some PUT IN for VARIABLES of a TYPE: each VARIABLE becomes that;", EdgesOfTypes::sharedTypesPutIn);
+        s.holds("Some PUT IN for VARIABLES of a TYPE: each VARIABLE becomes that;", EdgesOfTypes::manyTypesPutIn);
         s.holds("what comes is made, if it is not there", EdgesOfTypes::whatIsThereIsNotMade);
         s.holds("(of each its ARGUMENTS, in order, ahead of it;", EdgesOfTypes::argumentsAhead);
         s.holds("(of each its ARGUMENTS, in order, ahead of it;", EdgesOfTypes::argumentsAheadUntilNoRoom);
         s.holds("what is made stays).", EdgesOfTypes::staysAfterLacks);
         s.holds("what is made stays).", EdgesOfTypes::staysAfterFull);
+        s.holds("what is made stays).", EdgesOfTypes::staysAfterWantOfTypes);
         s.holds("what is made stays).", EdgesOfTypes::staysWithoutDictionaries);
     }
 
@@ -328,6 +331,23 @@ final class EdgesOfTypes extends Checks {
         dueType("what comes", x, before + 1, 1, before, NONE);
     }
 
+    private static void staysAfterWantOfTypes() {
+        Counted x = sceneToPutIn();
+        int open = x.type(1, x.type(2, 0, 0), 0);
+        x.body(2, 0, x.node(AT, 0, open, 1));
+        for (int t = x.count(1); t < 79; t++) {
+            due("filling", x.type(1, t - 1, 0), t);
+        }
+        x.dictionary(0, 5);
+        for (int again = 0; again < 2; again++) {
+            due("room for one of two", x.value(0, 0), 0);
+            due("failed(0)", x.failed(0), NO_ROOM);
+            due("count(1)", x.count(1), 80);
+            dueType("the one", x, 79, 2, 4, 4);
+        }
+        due("it is found", x.type(2, 4, 4), 79);
+    }
+
     private static void staysWithoutDictionaries() {
         Counted x = sceneToPutIn();
         int came = cameOf(x, x.type(2, 1, 0));
@@ -337,5 +357,52 @@ final class EdgesOfTypes extends Checks {
         due("count(1)", x.count(1), before);
         dueType("what came", x, came, 2, 3, 4);
         due("it is found", x.type(2, 3, 4), came);
+    }
+
+    /** As a tree this TYPE has some 2^35 leaves. */
+    private static void sharedTypesPutIn() {
+        Counted x = scene();
+        x.cls(1);
+        x.instance(0, 1);
+        x.instance(0, 2);
+        int shared = x.type(2, 0, 0);
+        for (int n = 0; n < 34; n++) {
+            shared = x.type(2, shared, shared);
+        }
+        x.body(1, 0, x.node(NUMBER, 6, 0, 0));
+        x.body(0, 0, x.node(AT, 0, shared, 0));
+        due("dictionary(0, 3)", x.dictionary(0, 3), 0);
+        due("count(1)", x.count(1), 40);
+        due("value(0, 0)", x.value(0, 0), 6);
+        due("count(1)", x.count(1), 75);
+    }
+
+    /** Of two chains with another VARIABLE each the same one comes, and all of it is there. */
+    private static void manyTypesPutIn() {
+        Counted x = new Counted();
+        x.constructor(0);
+        x.constructor(1);
+        x.constructor(2);
+        int[] ends = {0, 1, x.type(0, 0, 0)};
+        for (int n = 0; n < 24; n++) {
+            for (int k = 0; k < ends.length; k++) {
+                ends[k] = x.type(1, ends[k], 0);
+            }
+        }
+        int unit = 2;
+        int pair = x.type(2, unit, unit);
+        x.cls(1);
+        x.cls(1);
+        x.instance(0, 2);
+        x.instance(1, 2);
+        x.body(0, 0, x.node(AT, 1, x.type(2, ends[0], ends[1]), 0));
+        x.body(1, 0, x.node(NUMBER, 9, 0, 0));
+        due("dictionary(0, pair)", x.dictionary(0, pair), 0);
+        due("count(1)", x.count(1), 77);
+        due("value(0, 0)", x.value(0, 0), 9);
+        due("one type is made", x.count(1), 78);
+        due("typeOf(77, 1)", x.typeOf(77, 1), ends[2]);
+        due("typeOf(77, 2)", x.typeOf(77, 2), ends[2]);
+        due("about(1, 1)", x.about(1, 1), 77);
     }
 }

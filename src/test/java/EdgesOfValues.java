@@ -17,6 +17,8 @@ final class EdgesOfValues extends Checks {
         s.holds("It is being worked: RING.", EdgesOfValues::ringOfForty);
         s.holds("40 are being worked: DEEP.", EdgesOfValues::fortyAtWork);
         s.holds("40 are being worked: DEEP.", EdgesOfValues::deepGoesAheadOfMissing);
+        s.holds("40 are being worked: DEEP.", EdgesOfValues::highNodesAndDeepMembers);
+        s.holds("What is worked to its end is a STEP and stays worked;", EdgesOfValues::allMembersOfHighNodes);
         s.holds("Else its INSTANCE's BODY, or its CLASS's STANDARD, or MISSING.", EdgesOfValues::bodyOrStandard);
         s.holds("NODES from the left,", EdgesOfValues::fromTheLeft);
         s.holds("NODES from the left,", EdgesOfValues::firstFaultFromTheLeft);
@@ -33,6 +35,8 @@ final class EdgesOfValues extends Checks {
         s.holds("a FAULT ends all that is being worked,", EdgesOfValues::faultEndsAll);
         s.holds("it is told with the DICTIONARY and the MEMBER in which it was found",
             EdgesOfValues::toldWhereFound);
+        s.holds("it is told with the DICTIONARY and the MEMBER in which it was found",
+            EdgesOfValues::toldWhereFoundBelow);
         s.holds("(of RING, DEEP the one that would be worked),", EdgesOfValues::toldWhatWouldBeWorked);
         s.holds("and nothing of those stays.", EdgesOfValues::nothingOfThoseStays);
         s.holds("FAULTS: 1 MISSING, 2 RING, 3 ZERO, 4 LACKS, 5 FULL, 6 DEEP.", EdgesOfValues::faultNumbers);
@@ -625,5 +629,98 @@ final class EdgesOfValues extends Checks {
             x.value(0, 0);
             due("fault " + fault, x.failed(0), fault);
         }
+    }
+
+    /** 40 MEMBERS, each with its need at the far end of a NODE of HEIGHT 8. */
+    private static void highNodesAndDeepMembers() {
+        Counted x = chain(41, 5);
+        int one = x.node(NUMBER, 1, 0, 0);
+        int high = x.node(OF_CONTEXT, 0, 0, 0);
+        for (int n = 0; n < 8; n++) {
+            high = n % 2 == 0 ? x.node(PLUS, one, high, 0) : x.node(IF, one, high, one);
+        }
+        x.body(1, 0, high);
+        x.dictionary(0, 42);
+        for (int again = 0; again < 3; again++) {
+            due("value(0, 0)", x.value(0, 0), 0);
+            dueFault("value(0, 0)", x, DEEP, 40, 0);
+        }
+        due("value(1, 0)", x.value(1, 0), 5 + 4 * 39);
+        due("value(0, 0)", x.value(0, 0), 5 + 4 * 40);
+        Counted y = chain(60, 5);
+        int full = y.node(OF_CONTEXT, 0, 0, 0);
+        for (int n = 0; n < 8; n++) {
+            full = y.node(PLUS, full, full, 0);
+        }
+        y.body(1, 0, full);
+        y.dictionary(0, 61);
+        due("value(30, 0)", y.value(30, 0), 0);
+        due("it wraps to 0", y.failed(0), 0);
+        due("value(58, 0)", y.value(58, 0), 5 * 256);
+        due("value(0, 0)", y.value(0, 0), 0);
+        due("count(6)", y.count(6), 30);
+    }
+
+    /** The one in which the FAULT is found stands below others, and is not the one that was asked for. */
+    private static void toldWhereFoundBelow() {
+        for (int fault : new int[] {MISSING, ZERO, LACKING, NO_ROOM}) {
+            Counted x = chain(4, 5);
+            x.cls(1);
+            x.constructor(2);
+            x.body(0, 0, x.node(PLUS, x.node(NUMBER, 1, 0, 0), x.node(OWN, 1, 0, 0), 0));
+            x.standard(0, 1, faultyStandard(x, fault));
+            for (int t = x.count(1); fault == NO_ROOM && t < 80; t++) {
+                x.type(1, t - 1, 0);
+            }
+            x.dictionary(0, 5);
+            for (int d = 0; d < 4; d++) {
+                due("value(" + d + ", 0)", x.value(d, 0), 0);
+                dueFault("fault " + fault + " from " + d, x, fault, 3, 1);
+            }
+        }
+    }
+
+    private static int faultyStandard(Counted x, int fault) {
+        int nothing = x.node(NUMBER, 0, 0, 0);
+        switch (fault) {
+            case MISSING: return NONE;
+            case ZERO: return x.node(OVER, nothing, nothing, 0);
+            case LACKING: return x.node(AT, 1, 2, 0);
+            default: return x.node(AT, 0, x.type(2, 0, 0), 0);
+        }
+    }
+
+    /** The longest value() that there can be: 240 MEMBERS, each with a NODE of HEIGHT 8 and all sides worked. */
+    private static void allMembersOfHighNodes() {
+        Counted x = sceneOfTwoChains();
+        x.standard(0, 3, doubled(x, x.node(NUMBER, 1, 0, 0), 8));
+        x.standard(0, 2, doubled(x, x.node(AT, 0, 0, 3), 8));
+        x.standard(0, 1, doubled(x, x.node(AT, 0, 0, 2), 8));
+        int own = x.node(OWN, 1, 0, 0);
+        int one = x.node(PLUS, own, x.node(OF_CONTEXT, 0, 0, 0), 0);
+        x.standard(0, 0, doubled(x, own, 8));
+        x.body(1, 0, doubled(x, one, 7));
+        x.body(2, 0, doubled(x, x.node(PLUS, one, x.node(OF_CONTEXT, 1, 0, 0), 0), 6));
+        makeTwoChains(x);
+        long member = 1L << 24;
+        long left = member << 8;
+        long right = member << 8;
+        for (int n = 1; n < 30; n++) {
+            left = (member + left) << 7;
+            right = n < 29 ? (member + right) << 7 : right;
+        }
+        due("value(0, 0)", x.value(0, 0), (member + left + right) << 6);
+        due("failed(0)", x.failed(0), 0);
+        due("count(6)", x.count(6), 240);
+        due("a member 1", x.value(17, 1), member);
+        due("count(6)", x.count(6), 0);
+    }
+
+    private static int doubled(Counted x, int node, int times) {
+        int high = node;
+        for (int n = 0; n < times; n++) {
+            high = x.node(PLUS, high, high, 0);
+        }
+        return high;
     }
 }

@@ -14,7 +14,6 @@ public final class PromisesTest extends Checks {
         standards();
         dictionaries();
         makingsThatFail();
-        makingOfManyParts();
         roomForDictionaries();
         lacks();
         parts();
@@ -27,15 +26,12 @@ public final class PromisesTest extends Checks {
         sidesOfIf();
         variablesPutIn();
         orderOfTypesPutIn();
-        sharedTypesPutIn();
-        manyTypesPutIn();
         missing();
         rings();
         zero();
         faultsOfAt();
         deep();
         deepEdges();
-        highNodesAndDeepMembers();
         wantOfTypes();
         wantOfTypesKeepsWhatIsMade();
         wantOfDictionaries();
@@ -461,55 +457,6 @@ public final class PromisesTest extends Checks {
         due("count(5)", x.count(5), 2);
     }
 
-    /** Each of the 8 CLASSES, at each of 7 TYPES: 3 CONTEXTS but at the last, 3 SUPERS where it can. */
-    private static Counted sceneOfManyParts() {
-        Counted x = wideScene();
-        x.cls(1);
-        x.instance(7, 0);
-        x.instance(7, 1);
-        for (int c = 0; c < 8; c++) {
-            for (int k = 1; k <= Math.min(c, 3); k++) {
-                due("super " + k + " of " + c, x.superOf(c, c - k), k);
-            }
-            for (int k = 1; k <= 3; k++) {
-                due("context " + k + " of " + c, x.context(2 * c + 1, 8 - k, 0), k);
-            }
-        }
-        due("dictionary(7, 8)", x.dictionary(7, 8), 0);
-        due("count(5)", x.count(5), 56);
-        return x;
-    }
-
-    /** An object has calls enough for a look at some of the DICTIONARIES, so there is one for every 14. */
-    private static void makingOfManyParts() {
-        for (int from = 0; from < 56; from += 14) {
-            Counted x = sceneOfManyParts();
-            due("about(0, 4)", x.about(0, 4), 56);
-            for (int d = from; d < from + 14; d++) {
-                dueManyParts(x, d);
-            }
-            due("nothing was made twice", x.count(5), 56);
-        }
-        due("no parts", wideScene().dictionary(3, 4), 0);
-        Counted y = wideScene();
-        y.dictionary(1, 4);
-        due("no parts", y.count(5), 1);
-    }
-
-    private static void dueManyParts(Counted x, int d) {
-        int c = x.about(d, 0);
-        int t = x.about(d, 1);
-        int contexts = t == 2 ? 0 : 3;
-        due("about(" + d + ", 2)", x.about(d, 2), 2 * c + (t == 2 ? 0 : 1));
-        due("about(" + d + ", 3)", x.about(d, 3), contexts + Math.min(c, 3));
-        for (int k = 0; k < contexts; k++) {
-            due("part(" + d + ", " + k + ")", x.part(d, k), x.dictionary(7 - k, t - 1));
-        }
-        for (int k = 0; k < Math.min(c, 3); k++) {
-            due("part(" + d + ", " + (contexts + k) + ")", x.part(d, contexts + k), x.dictionary(c - 1 - k, t));
-        }
-    }
-
     private static void roomForDictionaries() {
         Counted x = wideScene();
         x.superOf(6, 5);
@@ -852,53 +799,6 @@ public final class PromisesTest extends Checks {
         }
     }
 
-    /** As a tree this TYPE has some 2^35 leaves. */
-    private static void sharedTypesPutIn() {
-        Counted x = scene();
-        x.cls(1);
-        x.instance(0, 1);
-        x.instance(0, 2);
-        int shared = x.type(2, 0, 0);
-        for (int n = 0; n < 34; n++) {
-            shared = x.type(2, shared, shared);
-        }
-        x.body(1, 0, x.node(NUMBER, 6, 0, 0));
-        x.body(0, 0, x.node(AT, 0, shared, 0));
-        due("dictionary(0, 3)", x.dictionary(0, 3), 0);
-        due("count(1)", x.count(1), 40);
-        due("value(0, 0)", x.value(0, 0), 6);
-        due("count(1)", x.count(1), 75);
-    }
-
-    /** Of two chains with another VARIABLE each the same one comes, and all of it is there. */
-    private static void manyTypesPutIn() {
-        Counted x = new Counted();
-        x.constructor(0);
-        x.constructor(1);
-        x.constructor(2);
-        int[] ends = {0, 1, x.type(0, 0, 0)};
-        for (int n = 0; n < 24; n++) {
-            for (int k = 0; k < ends.length; k++) {
-                ends[k] = x.type(1, ends[k], 0);
-            }
-        }
-        int unit = 2;
-        int pair = x.type(2, unit, unit);
-        x.cls(1);
-        x.cls(1);
-        x.instance(0, 2);
-        x.instance(1, 2);
-        x.body(0, 0, x.node(AT, 1, x.type(2, ends[0], ends[1]), 0));
-        x.body(1, 0, x.node(NUMBER, 9, 0, 0));
-        due("dictionary(0, pair)", x.dictionary(0, pair), 0);
-        due("count(1)", x.count(1), 77);
-        due("value(0, 0)", x.value(0, 0), 9);
-        due("one type is made", x.count(1), 78);
-        due("typeOf(77, 1)", x.typeOf(77, 1), ends[2]);
-        due("typeOf(77, 2)", x.typeOf(77, 2), ends[2]);
-        due("about(1, 1)", x.about(1, 1), 77);
-    }
-
     private static void missing() {
         Counted x = scene();
         x.cls(3);
@@ -1031,36 +931,6 @@ public final class PromisesTest extends Checks {
         z.dictionary(0, 41);
         due("value(39, 1)", z.value(39, 1), 6);
         due("what was worked is never DEEP", z.value(0, 0), 6);
-    }
-
-    /** 40 MEMBERS, each with its need at the far end of a NODE of HEIGHT 8. */
-    private static void highNodesAndDeepMembers() {
-        Counted x = chain(41, 5);
-        int one = x.node(NUMBER, 1, 0, 0);
-        int high = x.node(OF_CONTEXT, 0, 0, 0);
-        for (int n = 0; n < 8; n++) {
-            high = n % 2 == 0 ? x.node(PLUS, one, high, 0) : x.node(IF, one, high, one);
-        }
-        x.body(1, 0, high);
-        x.dictionary(0, 42);
-        for (int again = 0; again < 3; again++) {
-            due("value(0, 0)", x.value(0, 0), 0);
-            dueFault("value(0, 0)", x, DEEP, 40, 0);
-        }
-        due("value(1, 0)", x.value(1, 0), 5 + 4 * 39);
-        due("value(0, 0)", x.value(0, 0), 5 + 4 * 40);
-        Counted y = chain(60, 5);
-        int full = y.node(OF_CONTEXT, 0, 0, 0);
-        for (int n = 0; n < 8; n++) {
-            full = y.node(PLUS, full, full, 0);
-        }
-        y.body(1, 0, full);
-        y.dictionary(0, 61);
-        due("value(30, 0)", y.value(30, 0), 0);
-        due("it wraps to 0", y.failed(0), 0);
-        due("value(58, 0)", y.value(58, 0), 5 * 256);
-        due("value(0, 0)", y.value(0, 0), 0);
-        due("count(6)", y.count(6), 30);
     }
 
     private static void wantOfTypes() {
