@@ -985,19 +985,32 @@ public final class DictionaryTerms {
         long work(int dictionary, int member) {
             report.start();
             need(dictionary, member);
-            for (int turn = 0; turn < MOST_TURNS && atWork > 0; turn++) {
+            for (int turn = 0; turn < MOST_TURNS && atWork > 0 && report.fault() == 0; turn++) {
                 advance();
             }
-            return report.fault() == 0 ? latest : 0;
+            if (report.fault() == 0) {
+                return latest;
+            }
+            giveUpAll();
+            return 0;
+        }
+
+        /** What was worked to its end before the FAULT is no longer in the rows, so it stays worked. */
+        private void giveUpAll() {
+            for (int i = 0; i < atWork; i++) {
+                values.giveUp(workDictionary[i], workMember[i]);
+            }
+            atWork = 0;
+            open = 0;
         }
 
         private void need(int dictionary, int member) {
             if (values.isWorked(dictionary, member)) {
                 latest = values.workedTo(dictionary, member);
             } else if (values.isBeingWorked(dictionary, member)) {
-                fail(Report.RING, dictionary, member);
+                report.tellFault(Report.RING, dictionary, member);
             } else if (atWork >= MOST_AT_WORK) {
-                fail(Report.DEEP, dictionary, member);
+                report.tellFault(Report.DEEP, dictionary, member);
             } else {
                 beginMember(dictionary, member);
             }
@@ -1008,7 +1021,7 @@ public final class DictionaryTerms {
             int standard = classes.standardOf(dictionaries.classOf(dictionary), member);
             int type = dictionaries.typeAt(dictionary);
             if (body == NONE && standard == NONE) {
-                fail(Report.MISSING, dictionary, member);
+                report.tellFault(Report.MISSING, dictionary, member);
                 return;
             }
             values.begin(dictionary, member);
@@ -1125,16 +1138,7 @@ public final class DictionaryTerms {
         }
 
         private void failHere(int fault) {
-            fail(fault, workDictionary[atWork - 1], workMember[atWork - 1]);
-        }
-
-        private void fail(int fault, int dictionary, int member) {
-            report.tellFault(fault, dictionary, member);
-            for (int i = 0; i < atWork; i++) {
-                values.giveUp(workDictionary[i], workMember[i]);
-            }
-            atWork = 0;
-            open = 0;
+            report.tellFault(fault, workDictionary[atWork - 1], workMember[atWork - 1]);
         }
     }
 }
